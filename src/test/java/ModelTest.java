@@ -1,19 +1,33 @@
+import java.util.Arrays;
+import java.util.Map;
+import java.util.TreeMap;
+
 /**
- * Long runs of calls against a model that does every STEP one by one, in the document's own words.
- * The class itself reckons many STEPS at once, so the two agree only if the reckoning is right.
+ * Long runs of calls, and every state of a small world, against a model that does every STEP one by one, in the
+ * document's own words. The class itself reckons many STEPS at once, so the two agree only if the reckoning is right.
  */
 public final class ModelTest {
     private static final int RUNS = 1500;
     private static final int CALLS = 512;
+    // How far the model goes STEP by STEP to find what until answers
+    private static final int AHEAD = 200;
     private static final int[] EDGES = {
         0, 1, 2, 3, 5, 7, 31, 32, 33, 39, -1, -2, -3, 19999, 20000, 20001,
         268435455, 268435456, Integer.MAX_VALUE, Integer.MAX_VALUE - 1, Integer.MIN_VALUE, Integer.MIN_VALUE + 1,
     };
 
+    // Of the small world: COUNT near 0 and near its wrap; counts and LINES of entries by turns
+    private static final int[] SMALL_COUNTS = {
+        -3, -2, -1, 0, 1, 2, 3, 4, Integer.MAX_VALUE - 1, Integer.MAX_VALUE, Integer.MIN_VALUE,
+    };
+    private static final int[][] SMALL_ENTRIES = {
+        {}, {0, 1}, {1, 1}, {2, 1}, {2, 2}, {1, 1, 2, 0}, {0, 1, 1, 0, 3, 1}, {2, 2, 4, 1}, {1, 2, 2, 1, 3, 3},
+    };
+
     private static long seed = 20261115;
     private static int wrong = 0;
 
-    /** As the document tells it, with nothing reckoned ahead but until. */
+    /** As the document tells it, with nothing reckoned ahead but until, and that found by STEPS too when it is near. */
     private static final class Model {
         long retired;
         int count;
@@ -24,7 +38,7 @@ public final class ModelTest {
         int sr = 1;
         int saved;
         int taken;
-        java.util.TreeMap<Integer, Integer> entries = new java.util.TreeMap<>();
+        TreeMap<Integer, Integer> entries = new TreeMap<>();
 
         boolean entry(int at, int lines) {
             if (at < 0 || entries.size() == 32 || !entries.isEmpty() && at <= entries.lastKey()) {
@@ -35,7 +49,7 @@ public final class ModelTest {
         }
 
         int linesAt(int n) {
-            java.util.Map.Entry<Integer, Integer> latest = entries.floorEntry(n);
+            Map.Entry<Integer, Integer> latest = entries.floorEntry(n);
             return latest == null ? 0 : latest.getValue();
         }
 
@@ -98,6 +112,32 @@ public final class ModelTest {
             return retired + nearest < 1L << 31 ? (int) nearest : -1;
         }
 
+        /** AHEAD and one more if no INTERRUPT is due up to there. */
+        int untilByStepping() {
+            Model ahead = copy();
+            int done = 0;
+            while (done <= AHEAD && ahead.due() == 0) {
+                ahead.step();
+                done++;
+            }
+            return done;
+        }
+
+        Model copy() {
+            Model other = new Model();
+            other.retired = retired;
+            other.count = count;
+            other.period = period;
+            other.counting = counting;
+            other.pending = pending;
+            other.mask = mask;
+            other.sr = sr;
+            other.saved = saved;
+            other.taken = taken;
+            other.entries.putAll(entries);
+            return other;
+        }
+
         int entryOf(int i, boolean lines) {
             int at = 0;
             for (int key : entries.keySet()) {
@@ -121,6 +161,7 @@ public final class ModelTest {
         for (int run = 0; run < RUNS && wrong == 0; run++) {
             oneRun(run);
         }
+        everySmallState();
         System.out.println(wrong == 0 ? "all answers are as due" : wrong + " answers are not as due");
         if (wrong != 0) {
             System.exit(1);
@@ -185,7 +226,7 @@ public final class ModelTest {
         } else if (kind < 63) {
             due(run, "take", x.take(), m.take());
         } else if (kind < 73) {
-            due(run, "until", x.until(), m.until());
+            dueUntil("run " + run + ": ", x, m);
         } else if (kind < 78) {
             int n = below(3) == 0 ? edge() : (int) m.retired + below(100) - 50;
             due(run, "linesAt " + n, x.linesAt(n), m.linesAt(Math.max(n, -1)));
@@ -199,10 +240,76 @@ public final class ModelTest {
         }
     }
 
+    private static void dueUntil(String where, RetiredTimer x, Model m) {
+        int got = x.until();
+        due(where + "until", got, m.until());
+        int near = m.untilByStepping();
+        if (near <= AHEAD) {
+            due(where + "until, found by STEPS", got, near);
+        } else {
+            due(where + "until, none found by " + AHEAD + " STEPS", got >= 0 && got <= AHEAD ? got : -1, -1);
+        }
+    }
+
+    private static void everySmallState() {
+        for (int bits = 0; bits < 64; bits++) {
+            for (int period = 0; period < 4; period++) {
+                for (int count : SMALL_COUNTS) {
+                    for (int[] entries : SMALL_ENTRIES) {
+                        oneSmallState(bits, period, count, entries);
+                    }
+                }
+            }
+        }
+    }
+
+    private static void oneSmallState(int bits, int period, int count, int[] entries) {
+        boolean counting = (bits & 1) != 0;
+        boolean pending = (bits & 2) != 0;
+        int sr = (bits >> 2 & 3) * 2;
+        int mask = bits >> 4;
+        String state = "entries " + Arrays.toString(entries) + " timer " + period + " " + counting + " " + pending
+            + " count " + count + " mode " + sr + " mask " + mask + ": ";
+        for (int n = 1; n < 8 && wrong == 0; n++) {
+            RetiredTimer x = new RetiredTimer();
+            Model m = new Model();
+            for (int i = 0; i + 1 < entries.length; i += 2) {
+                x.entry(entries[i], entries[i + 1]);
+                m.entry(entries[i], entries[i + 1]);
+            }
+            x.timer(period, counting, pending);
+            x.count(count);
+            x.mode(sr);
+            x.mask(mask);
+            m.period = period;
+            m.counting = counting;
+            m.pending = pending;
+            m.count = count;
+            m.sr = sr;
+            m.mask = mask;
+            stepFromSmallState(state, n, x, m);
+        }
+    }
+
+    private static void stepFromSmallState(String state, int n, RetiredTimer x, Model m) {
+        dueUntil(state, x, m);
+        due(state + "steps " + n, x.steps(n), m.steps(n));
+        String behind = state + "behind steps " + n + " ";
+        for (int which = 0; which < 12; which++) {
+            due(behind + "look " + which, x.look(which), m.look(which));
+        }
+        dueUntil(behind, x, m);
+        due(behind + "take", x.take(), m.take());
+    }
+
     private static void due(int run, String call, int got, int want) {
+        due("run " + run + ": " + call, got, want);
+    }
+
+    private static void due(String call, int got, int want) {
         if (got != want) {
             wrong++;
-            System.out.println("run " + run + ": " + call + " answered " + got + ", due is " + want);
+            System.out.println(call + " answered " + got + ", due is " + want);
         }
     }
 
